@@ -16,7 +16,8 @@ public final class ModelTest {
         "acted", "acted", "said", "said", "holds", "count", "of", "row", "part", "get", "clear", "set"};
     private static final String[] FARM = {"place", "read", "read", "read", "wind", "bound", "run", "run", "run",
         "reset", "reset", "of", "of", "of", "of", "of", "finding", "finding", "count", "traced", "forget"};
-    private static final String[][] MODES = {STORE, PARTS, SECONDS, ACTS, FARM};
+    private static final String[] FAULTS = {"run", "run", "reset", "reset", "reset", "reset", "finding", "count", "read"};
+    private static final String[][] MODES = {STORE, PARTS, SECONDS, ACTS, FARM, FAULTS};
 
     private final Random random;
     private final int turbines;
@@ -64,9 +65,11 @@ public final class ModelTest {
     private void furnish() {
         int n = model.turbines.length;
         int bare = random.nextInt(12);
+        int first = random.nextInt(5);
         for (int t = 0; t < n; t++) {
             call("place", t, random.nextInt(41) - 20, random.nextInt(21) - 10);
-            for (int slot = 0; slot < 5; slot++) {
+            for (int k = 0; k < 5; k++) {
+                int slot = (first + k) % 5;
                 if (random.nextInt(12) == bare) {
                     continue;
                 }
