@@ -1052,6 +1052,9 @@ public final class PromisesTest {
         }
         due(27, "neither TRY nor FINALLY", x.act(0), SPENT);
         due(28, "steps", x.acted(1), 100);
+        x.drop(2);
+        due(27, "not even by a plan that needs no step", x.act(0), SPENT);
+        due(28, "steps", x.acted(1), 100);
         plans(x, st(0, FINALLY, 1, 3), st(1, FAIL, 2), st(4, SAY, 1));
         for (int i = 0; i < 15; i++) {
             x.step(4, SAY, 1, 0, 0);
@@ -1157,6 +1160,7 @@ public final class PromisesTest {
         due(30, "edges", x.place(1, -100, 100), 1);
         due(30, "turbine", x.place(2, 101, 0), UNKNOWN);
         due(30, "turbine -1", x.place(-1, 0, 0), UNKNOWN);
+        due(30, "other edges", x.place(1, 100, -100), 1);
         int[][] bad = {{101, 0}, {-101, 0}, {0, 101}, {0, -101}};
         for (int[] b : bad) {
             due(30, "outside", x.place(0, b[0], b[1]), OUTSIDE);
@@ -1383,6 +1387,15 @@ public final class PromisesTest {
         x.read(0, 0, bits(-0.0));
         x.run(1);
         due(34, "-0.0 has other bits", x.of(0, 6), bits(-0.0));
+        // What was ahead of the first step is no reading, least of all 0.0.
+        WindPark w = new WindPark(1);
+        w.wind(0, true);
+        fit(w, 0, 0, CUPS);
+        w.read(0, 0, bits(0.0));
+        for (int i = 0; i < 3; i++) {
+            w.run(1);
+            due(34, "0.0 in step " + i, w.of(0, 6), i < 2 ? bits(0.0) : NO_NUMBER);
+        }
         // The readings of a bare slot are remembered, too.
         WindPark y = new WindPark(1);
         y.wind(0, true);
@@ -1526,14 +1539,12 @@ public final class PromisesTest {
         windIsWorn();
     }
 
-    /** A negative wind wears below 0, an act can bring the turbine there by its bounds. */
+    /** A negative wind wears below 0. */
     private static void windIsWorn() {
         WindPark x = new WindPark(1);
         equip(x, 0, 12.0);
         x.run(30);
         due(34, "makes", x.of(0, 0), MAKING);
-        plans(x, st(0, HOLDING, 0, 1), st(1, STRIP, 0, 4), st(1, LAY, 5), st(1, TAKE, 5), st(1, FIT, 0, 4));
-        x.act(0);
         plans(x, st(0, HOLDING, 0, 1), st(1, STRIP, 0, 4));
         x.act(0);
         long wear = x.told(23, 2);
