@@ -22,10 +22,15 @@ final class Sentences {
     private static final Map<String, Long> WORDS = new HashMap<>();
     private static final List<String> REFUSALS = Arrays.asList("UNKNOWN", "OUTSIDE", "STATE", "ROOM", "NOTHING",
         "INDEX", "SIZE", "CAST", "STORE", "ZERO", "HOLD", "DEEP", "SPENT");
-    /** Things, plans and turbines that are there, so that a refused call has something to spoil. */
+    /**
+     * Things, plans and turbines that are there, so that a refused call has something to spoil: in the step that comes
+     * next both turbines fail, turbine 1 first by its line, and one of turbine 0's sensors is frozen.
+     */
     private static final String[] FURNITURE = {"row 16 ints 2", "put 16 ints 1 7", "grid 17 1 2", "putAt 17 0 1 5",
         "part 18 PITCH", "part 19 SONIC", "cradle 20 VANE 2", "lay 20 1 19", "set 19 21", "ask 19 COST 0",
-        "step 7 SAY 5", "step 7 ANSWER 9", "act 7", "fit 0 1 VANE", "read 0 1 9.0d", "place 0 3 4", "wind 2 true"};
+        "step 7 SAY 5", "step 7 ANSWER 9", "place 0 3 4", "place 1 5 0", "wind 1 true", "read 0 1 9.0d", "run 2",
+        "fit 0 1 VANE", "set 19 0", "set 19 1", "step 6 TAKE 0", "step 6 FIT 0 2", "step 6 TAKE 1", "step 6 FIT 1 2",
+        "act 6", "drop 6", "read 0 2 9.5d", "read 1 2 9.0d", "act 7"};
 
     static {
         number(-1, "NONE", "UNKNOWN", "OUTSIDE", "STATE", "ROOM");
@@ -218,8 +223,8 @@ final class Sentences {
                 return;
             }
             String[] fit = row.split(" +");
-            String[] calls = {"drop 8", "drop 9", "part 22 " + fit[3], "step 8 TAKE 22", "step 8 HOLDING " + fit[1] + " 9",
-                "step 9 FIT " + fit[1] + " " + fit[2], "act 8"};
+            String[] calls = {"drop 8", "drop 9", "part 22 " + fit[3], "step 8 TAKE 22",
+                "step 8 HOLDING " + fit[1] + " 9", "step 9 FIT " + fit[1] + " " + fit[2], "act 8"};
             for (String call : calls) {
                 playOne(new Row(call));
             }
@@ -286,12 +291,14 @@ final class Sentences {
             cases();
             past();
             turbines();
-            cradles();
             plans();
             for (int i = 0; i < 3; i++) {
                 see(ask("run", 1));
                 turbines();
+                findings();
             }
+            // Last, since this asks what may be refused.
+            cradles();
             return seen.toString();
         }
 
@@ -354,8 +361,7 @@ final class Sentences {
                     for (int kind = 0; kind < 7; kind++) {
                         see(ask("lift", c, i, kind, to));
                     }
-                    see(ask("holds", to));
-                    see(ask("told", to, 1));
+                    see(ask("holds", to) == 10 ? ask("told", to, 1) : "none");
                 }
             }
         }
@@ -369,6 +375,10 @@ final class Sentences {
             if (!sparesAct) {
                 acts();
             }
+            findings();
+        }
+
+        private void findings() {
             see("findings");
             int findings = (int) ask("count", 4);
             // Of many, the first and the last tell enough.

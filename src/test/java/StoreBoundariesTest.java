@@ -80,12 +80,12 @@ public final class StoreBoundariesTest {
 
     private static void newThings() {
         for (int lane = 0; lane < 8; lane++) {
-            Sentences.sentence("Terms: what is in a new one is 0, false", "row 3 " + lane + " 30", "get 3 " + lane + " 0 = 0",
-                "get 3 " + lane + " 29 = 0", "put 3 " + lane + " 29 1", "row 3 " + lane + " 30 = 30",
-                "get 3 " + lane + " 29 = 0");
+            Sentences.sentence("Terms: what is in a new one is 0, false", "row 3 " + lane + " 30",
+                "get 3 " + lane + " 0 = 0", "get 3 " + lane + " 29 = 0", "put 3 " + lane + " 29 1",
+                "row 3 " + lane + " 30 = 30", "get 3 " + lane + " 29 = 0");
         }
-        Sentences.sentence("Terms: what is in a new one is 0 (GRID)", "grid 3 8 12", "getAt 3 0 0 = 0", "getAt 3 7 11 = 0",
-            "putAt 3 7 11 1", "grid 3 8 12", "getAt 3 7 11 = 0");
+        Sentences.sentence("Terms: what is in a new one is 0 (GRID)", "grid 3 8 12", "getAt 3 0 0 = 0",
+            "getAt 3 7 11 = 0", "putAt 3 7 11 1", "grid 3 8 12", "getAt 3 7 11 = 0");
         Sentences.sentence("Terms: what is in a new one is missing (CRADLE)", "cradle 3 CUPS 8", "part 4 CUPS",
             "lift 3 0 CUPS 4 = 1", "holds 4 = NONE", "part 4 CUPS", "lift 3 7 CUPS 4 = 1", "holds 4 = NONE");
         Sentences.sentence("Terms: several may hold the same one", "row 0 ints 1", "set 0 23 = 1", "put 23 ints 0 9",
@@ -98,8 +98,10 @@ public final class StoreBoundariesTest {
     }
 
     private static void bitsOfWholeNumbers() {
-        String[][] bytes = {{"127", "127"}, {"128", "-128"}, {"-128", "-128"}, {"-129", "127"}, {"255", "-1"}, {"256", "0"}};
-        String[][] shorts = {{"32767", "32767"}, {"32768", "-32768"}, {"-32769", "32767"}, {"65535", "-1"}, {"65536", "0"}};
+        String[][] bytes = {{"127", "127"}, {"128", "-128"}, {"-128", "-128"}, {"-129", "127"}, {"255", "-1"}, {"256",
+            "0"}};
+        String[][] shorts = {{"32767", "32767"}, {"32768", "-32768"}, {"-32769", "32767"}, {"65535", "-1"}, {"65536",
+            "0"}};
         String[][] chars = {{"65535", "65535"}, {"65536", "0"}, {"-1", "65535"}, {"32768", "32768"}};
         String[][] ints = {{"2147483647", "2147483647"}, {"2147483648", "-2147483648"}, {"-2147483649", "2147483647"},
             {"4294967295", "-1"}, {"4294967296", "0"}};
@@ -150,8 +152,9 @@ public final class StoreBoundariesTest {
                 "put 0 " + lane + " 0 1 = 1", "put 0 " + lane + " 1 1 = INDEX", "row 0 " + lane + " 0 = 0",
                 "put 0 " + lane + " 0 1 = INDEX");
         }
-        Sentences.furnished("2: in a CASE (whatever it held)", "row 16 longs 1 = 1", "holds 16 = longs", "row 17 ints 1 = 1",
-            "holds 17 = ints", "row 18 ints 1 = 1", "holds 18 = ints", "row 20 ints 1 = 1", "holds 20 = ints");
+        Sentences.furnished("2: in a CASE (whatever it held)", "row 16 longs 1 = 1", "holds 16 = longs",
+            "row 17 ints 1 = 1", "holds 17 = ints", "row 18 ints 1 = 1", "holds 18 = ints", "row 20 ints 1 = 1",
+            "holds 20 = ints");
         Sentences.furnished("2: the first that fits: UNKNOWN, OUTSIDE; then SIZE", "row 24 8 31 = UNKNOWN",
             "row -1 -1 -1 = UNKNOWN", "row 0 8 -1 = OUTSIDE", "row 0 -1 -1 = OUTSIDE", "row 0 0 -1 = SIZE");
     }
@@ -191,9 +194,9 @@ public final class StoreBoundariesTest {
         Sentences.sentence("5: its SERIAL (0, 1, .. as they come)", "part 0 CUPS = 0", "part 1 7 = OUTSIDE",
             "part 24 CUPS = UNKNOWN", "part 0 HEAVY = 1", "told 0 SERIAL = 1", "told 0 KIND = HEAVY", "told 0 WEAR = 0",
             "count 1 = 2");
-        Sentences.sentence("5: ROOM: there were 60", "58 x part 1 CUPS", "clear 1", "part 0 VANE = 58", "part 1 BLADE = 59",
-            "part 0 VANE = ROOM", "part 2 VANE = ROOM", "told 0 SERIAL = 58", "holds 2 = NONE", "count 1 = 60",
-            "clear 0", "clear 1", "part 0 VANE = ROOM");
+        Sentences.furnished("5: ROOM: there were 60", "55 x part 1 CUPS", "clear 1", "part 0 VANE = 58",
+            "part 1 BLADE = 59", "part 0 VANE = ROOM", "part 2 VANE = ROOM", "told 0 SERIAL = 58", "holds 2 = NONE",
+            "count 1 = 60", "clear 0", "clear 1", "part 0 VANE = ROOM");
         Sentences.sentence("5: the first that fits: UNKNOWN, OUTSIDE, ROOM", "60 x part 1 CUPS", "part 24 7 = UNKNOWN",
             "part 24 0 = UNKNOWN", "part 0 7 = OUTSIDE", "part 0 -1 = OUTSIDE", "part 0 6 = ROOM");
     }
@@ -207,8 +210,8 @@ public final class StoreBoundariesTest {
         Sentences.furnished("6: UNKNOWN (either)", "set 24 24 = UNKNOWN", "set -1 16 = UNKNOWN", "set 16 -1 = UNKNOWN");
         Sentences.furnished("7: a CASE is EMPTY: 1; 0: it was", "clear 16 = 1", "holds 16 = NONE", "clear 16 = 0",
             "clear 0 = 0", "count 2 = 5", "clear 19 = 1", "holds 21 = PART");
-        String[] made = {"row 0 bytes 0", "row 0 shorts 0", "row 0 chars 0", "row 0 ints 0", "row 0 longs 0", "row 0 floats 0",
-            "row 0 doubles 0", "row 0 truths 0", "grid 0 0 0", "cradle 0 CUPS 0", "part 0 CUPS"};
+        String[] made = {"row 0 bytes 0", "row 0 shorts 0", "row 0 chars 0", "row 0 ints 0", "row 0 longs 0",
+            "row 0 floats 0", "row 0 doubles 0", "row 0 truths 0", "grid 0 0 0", "cradle 0 CUPS 0", "part 0 CUPS"};
         for (int sort = 0; sort < made.length; sort++) {
             Sentences.sentence("8: what a CASE holds: 0 .. 10; NONE", "holds 0 = NONE", made[sort], "holds 0 = " + sort,
                 "clear 0", "holds 0 = NONE");
@@ -226,16 +229,18 @@ public final class StoreBoundariesTest {
             int other = (lane + 1) % 8;
             Sentences.sentence("9, 10: CAST (a ROW of another LANE), of no items, too", "row 0 " + lane + " 0",
                 "put 0 " + other + " 0 1 = CAST", "get 0 " + other + " 0 = 0 CAST", "put 0 " + lane + " 0 1 = INDEX");
-            Sentences.furnished("9, 10: CAST (no ROW)", "put 17 " + lane + " 0 1 = CAST", "put 18 " + lane + " 0 1 = CAST",
-                "put 20 " + lane + " 0 1 = CAST", "get 17 " + lane + " 0 = 0 CAST", "get 18 " + lane + " 0 = 0 CAST",
-                "get 20 " + lane + " 0 = 0 CAST");
-            Sentences.sentence("9, 10: NOTHING; an EMPTY CASE may be treated as any", "put 0 " + lane + " 0 1 = NOTHING",
-                "get 0 " + lane + " 0 = 0 NOTHING");
+            Sentences.furnished("9, 10: CAST (no ROW)", "put 17 " + lane + " 0 1 = CAST",
+                "put 18 " + lane + " 0 1 = CAST", "put 20 " + lane + " 0 1 = CAST", "get 17 " + lane + " 0 = 0 CAST",
+                "get 18 " + lane + " 0 = 0 CAST", "get 20 " + lane + " 0 = 0 CAST");
+            Sentences.sentence("9, 10: NOTHING; an EMPTY CASE may be treated as any",
+                "put 0 " + lane + " 0 1 = NOTHING", "get 0 " + lane + " 0 = 0 NOTHING");
         }
-        Sentences.furnished("9: UNKNOWN; OUTSIDE; CAST, NOTHING, INDEX", "put 24 8 9 1 = UNKNOWN", "put 16 8 9 1 = OUTSIDE",
-            "put 0 8 9 1 = OUTSIDE", "put 16 longs 9 1 = CAST", "put 0 longs 9 1 = NOTHING", "put 16 ints 2 1 = INDEX");
-        Sentences.furnished("10: likewise", "get 24 8 9 = 0 UNKNOWN", "get 16 8 9 = 0 OUTSIDE", "get 0 -1 9 = 0 OUTSIDE",
-            "get 16 longs 9 = 0 CAST", "get 0 longs 9 = 0 NOTHING", "get 16 ints 2 = 0 INDEX");
+        Sentences.furnished("9: UNKNOWN; OUTSIDE; CAST, NOTHING, INDEX", "put 24 8 9 1 = UNKNOWN",
+            "put 16 8 9 1 = OUTSIDE", "put 0 8 9 1 = OUTSIDE", "put 16 longs 9 1 = CAST", "put 0 longs 9 1 = NOTHING",
+            "put 16 ints 2 1 = INDEX");
+        Sentences.furnished("10: likewise", "get 24 8 9 = 0 UNKNOWN", "get 16 8 9 = 0 OUTSIDE",
+            "get 0 -1 9 = 0 OUTSIDE", "get 16 longs 9 = 0 CAST", "get 0 longs 9 = 0 NOTHING",
+            "get 16 ints 2 = 0 INDEX");
     }
 
     private static void putAtAndGetAt() {
@@ -245,14 +250,14 @@ public final class StoreBoundariesTest {
         Sentences.within("12: INDEX (j)", 0, 11, "getAt 5 1 #", "9", "0 INDEX", "grid 5 2 12", "putAt 5 1 # 9");
         Sentences.furnished("11: CAST", "putAt 16 0 0 1 = CAST", "putAt 18 0 0 1 = CAST", "putAt 20 0 0 1 = CAST");
         Sentences.furnished("12: CAST", "getAt 16 0 0 = 0 CAST", "getAt 18 0 0 = 0 CAST", "getAt 20 0 0 = 0 CAST");
-        Sentences.sentence("11: becomes v", "grid 0 1 1", "putAt 0 0 0 MAX = 1", "getAt 0 0 0 = MAX", "putAt 0 0 0 MIN = 1",
-            "getAt 0 0 0 = MIN");
+        Sentences.sentence("11: becomes v", "grid 0 1 1", "putAt 0 0 0 MAX = 1", "getAt 0 0 0 = MAX",
+            "putAt 0 0 0 MIN = 1", "getAt 0 0 0 = MIN");
         Sentences.sentence("11: NOTHING (EMPTY), INDEX (i), NOTHING (missing), INDEX (j)", "putAt 0 9 9 1 = NOTHING",
             "grid 0 2 -1", "putAt 0 2 9 1 = INDEX", "putAt 0 -1 9 1 = INDEX", "putAt 0 1 9 1 = NOTHING", "grid 0 2 1",
             "putAt 0 1 1 1 = INDEX", "putAt 0 1 -1 1 = INDEX");
-        Sentences.sentence("12: 0 if that is refused", "getAt 0 9 9 = 0 NOTHING", "grid 0 2 -1", "getAt 0 2 9 = 0 INDEX",
-            "getAt 0 1 9 = 0 NOTHING", "grid 0 2 1", "putAt 0 1 0 4", "getAt 0 1 1 = 0 INDEX", "getAt 0 1 -1 = 0 INDEX",
-            "getAt 0 1 0 = 4");
+        Sentences.sentence("12: 0 if that is refused", "getAt 0 9 9 = 0 NOTHING", "grid 0 2 -1",
+            "getAt 0 2 9 = 0 INDEX", "getAt 0 1 9 = 0 NOTHING", "grid 0 2 1", "putAt 0 1 0 4", "getAt 0 1 1 = 0 INDEX",
+            "getAt 0 1 -1 = 0 INDEX", "getAt 0 1 0 = 4");
     }
 
     private static void link() {
@@ -281,7 +286,8 @@ public final class StoreBoundariesTest {
         Sentences.furnished("14: CAST (d)", "lay 20 0 16 = CAST", "lay 20 0 17 = CAST", "lay 20 0 20 = CAST");
         Sentences.furnished("14: UNKNOWN; CAST (c), CAST (d), NOTHING, INDEX, STORE", "lay 24 9 16 = UNKNOWN",
             "lay 16 9 24 = UNKNOWN", "lay 0 9 16 = CAST", "lay 20 9 16 = CAST", "lay 0 9 18 = NOTHING",
-            "lay 0 0 1 = NOTHING", "lay 20 2 18 = INDEX", "lay 20 1 18 = STORE", "lift 20 1 VANE 0", "told 0 SERIAL = 1");
+            "lay 0 0 1 = NOTHING", "lay 20 2 18 = INDEX", "lay 20 1 18 = STORE", "lift 20 1 VANE 0",
+            "told 0 SERIAL = 1");
         Sentences.furnished("14: EMPTY: missing", "lay 20 1 0 = 1", "lift 20 1 VANE 21 = 1", "holds 21 = NONE",
             "holds 19 = PART");
         String[] of = {"0 7", "1 7", "1 2 7", "3", "3 4", "5", "5 6"};
@@ -289,10 +295,11 @@ public final class StoreBoundariesTest {
             for (int wanted = 0; wanted < 8; wanted++) {
                 boolean is = (" " + of[kind] + " ").contains(" " + wanted + " ");
                 Sentences.sentence("14: STORE: not OF its KIND", "part 0 " + kind, "cradle 1 " + wanted + " 1",
-                    "lay 1 0 0 = " + (is ? "1" : "STORE"), "lift 1 0 " + kind + " 2 = 1", "holds 2 = " + (is ? "PART" : "NONE"));
-                Sentences.sentence("15: treated as a PART OF a KIND; CAST", "part 0 " + kind, "cradle 1 " + kind + " 1", "lay 1 0 0",
-                    "row 2 ints 1", "lift 1 0 " + wanted + " 2 = " + (is ? "1" : "CAST"), "alike 0 2 = " + (is ? "1" : "0"),
-                    "lift 1 0 " + kind + " 2 = 1", "alike 0 2 = 1");
+                    "lay 1 0 0 = " + (is ? "1" : "STORE"), "lift 1 0 " + kind + " 2 = 1",
+                    "holds 2 = " + (is ? "PART" : "NONE"));
+                Sentences.sentence("15: treated as a PART OF a KIND; CAST", "part 0 " + kind, "cradle 1 " + kind + " 1",
+                    "lay 1 0 0", "row 2 ints 1", "lift 1 0 " + wanted + " 2 = " + (is ? "1" : "CAST"),
+                    "alike 0 2 = " + (is ? "1" : "0"), "lift 1 0 " + kind + " 2 = 1", "alike 0 2 = 1");
             }
         }
     }
@@ -300,16 +307,19 @@ public final class StoreBoundariesTest {
     private static void lift() {
         Sentences.within("15: INDEX", 0, 7, "lift 5 # VANE 16", "1", "INDEX", "cradle 5 VANE 8",
             "lay 5 # 19");
-        Sentences.within("15: INDEX, of a missing one, too", 0, 7, "lift 5 # DRIVE 16", "1", "INDEX", "cradle 5 VANE 8");
+        Sentences.within("15: INDEX, of a missing one, too", 0, 7, "lift 5 # DRIVE 16", "1", "INDEX",
+            "cradle 5 VANE 8");
         Sentences.within("15: a KIND 0 .. 7; OUTSIDE", 0, 7, "lift 5 0 # 16", "1", "OUTSIDE", "cradle 5 VANE 1");
-        Sentences.furnished("15: it stays there, too", "lift 20 1 SONIC 0 = 1", "alike 0 19 = 1", "lift 20 1 SENSOR 1 = 1",
-            "alike 1 0 = 1");
+        Sentences.furnished("15: it stays there, too", "lift 20 1 SONIC 0 = 1", "alike 0 19 = 1",
+            "lift 20 1 SENSOR 1 = 1", "alike 1 0 = 1");
         Sentences.furnished("15: missing: EMPTY, as each KIND", "lift 20 0 HEAVY 16 = 1", "holds 16 = NONE");
         Sentences.furnished("15: into the CASE of the CRADLE", "lift 20 1 VANE 20 = 1", "holds 20 = PART");
-        Sentences.furnished("15: CAST (c)", "lift 16 0 VANE 0 = CAST", "lift 17 0 VANE 0 = CAST", "lift 18 0 VANE 0 = CAST");
+        Sentences.furnished("15: CAST (c)", "lift 16 0 VANE 0 = CAST", "lift 17 0 VANE 0 = CAST",
+            "lift 18 0 VANE 0 = CAST");
         Sentences.furnished("15: UNKNOWN; OUTSIDE; CAST (c), NOTHING, INDEX, CAST", "lift 24 9 8 16 = UNKNOWN",
-            "lift 16 9 8 24 = UNKNOWN", "lift 16 9 8 16 = OUTSIDE", "lift 0 9 -1 16 = OUTSIDE", "lift 16 9 CUPS 16 = CAST",
-            "lift 0 9 CUPS 16 = NOTHING", "lift 20 2 CUPS 16 = INDEX", "lift 20 1 CUPS 16 = CAST");
+            "lift 16 9 8 24 = UNKNOWN", "lift 16 9 8 16 = OUTSIDE", "lift 0 9 -1 16 = OUTSIDE",
+            "lift 16 9 CUPS 16 = CAST", "lift 0 9 CUPS 16 = NOTHING", "lift 20 2 CUPS 16 = INDEX",
+            "lift 20 1 CUPS 16 = CAST");
     }
 
     private static void copyLimits() {
@@ -339,17 +349,18 @@ public final class StoreBoundariesTest {
     }
 
     private static void copyOrder() {
-        Sentences.furnished("16: UNKNOWN; NOTHING; STORE; INDEX", "copy 24 -1 0 -1 -1 = UNKNOWN", "copy 0 -1 24 -1 -1 = UNKNOWN",
-            "copy 0 -1 18 -1 -1 = NOTHING", "copy 18 -1 0 -1 -1 = NOTHING", "copy 16 -1 17 -1 -1 = STORE",
-            "copy 16 2 16 0 1 = INDEX");
-        Sentences.furnished("16: STORE ahead of INDEX", "copy 18 9 18 9 9 = STORE", "copy 18 9 20 9 9 = STORE", "copy 20 9 18 9 9 = STORE",
-            "copy 17 9 16 9 9 = STORE", "copy 16 9 20 9 9 = STORE", "row 0 longs 1", "copy 16 9 0 9 9 = STORE");
+        Sentences.furnished("16: UNKNOWN; NOTHING; STORE; INDEX", "copy 24 -1 0 -1 -1 = UNKNOWN",
+            "copy 0 -1 24 -1 -1 = UNKNOWN", "copy 0 -1 18 -1 -1 = NOTHING", "copy 18 -1 0 -1 -1 = NOTHING",
+            "copy 16 -1 17 -1 -1 = STORE", "copy 16 2 16 0 1 = INDEX");
+        Sentences.furnished("16: STORE ahead of INDEX", "copy 18 9 18 9 9 = STORE", "copy 18 9 20 9 9 = STORE",
+            "copy 20 9 18 9 9 = STORE", "copy 17 9 16 9 9 = STORE", "copy 16 9 20 9 9 = STORE", "row 0 longs 1",
+            "copy 16 9 0 9 9 = STORE");
         Sentences.furnished("16: NOTHING: one is EMPTY", "copy 0 0 16 0 0 = NOTHING", "copy 16 0 0 0 0 = NOTHING",
             "copy 0 0 0 0 0 = NOTHING");
         Sentences.furnished("16: STORE: a PART", "copy 18 0 18 0 0 = STORE", "copy 18 0 16 0 0 = STORE",
             "copy 16 0 18 0 0 = STORE", "copy 20 0 18 0 0 = STORE", "copy 18 0 20 0 0 = STORE");
-        Sentences.furnished("16: STORE: a ROW and another THING", "copy 16 0 17 0 0 = STORE", "copy 17 0 16 0 0 = STORE",
-            "copy 16 0 20 0 0 = STORE", "copy 20 0 16 0 0 = STORE");
+        Sentences.furnished("16: STORE: a ROW and another THING", "copy 16 0 17 0 0 = STORE",
+            "copy 17 0 16 0 0 = STORE", "copy 16 0 20 0 0 = STORE", "copy 20 0 16 0 0 = STORE");
         for (int lane = 0; lane < 8; lane++) {
             for (int other = 0; other < 8; other++) {
                 Sentences.sentence("16: STORE: unlike LANES", "row 0 " + lane + " 1", "put 0 " + lane + " 0 1",
@@ -360,30 +371,38 @@ public final class StoreBoundariesTest {
     }
 
     private static void copyBelonging() {
-        String[] row = {"row 0 ints 4", "put 0 ints 0 1", "put 0 ints 1 2", "put 0 ints 2 3", "put 0 ints 3 4", "set 0 1"};
-        Sentences.sentence("16: as they were before (upwards)", Sentences.joined(row, "copy 0 0 1 1 3 = 3", "get 0 ints 0 = 1",
-            "get 0 ints 1 = 1", "get 0 ints 2 = 2", "get 0 ints 3 = 3"));
-        Sentences.sentence("16: as they were before (downwards)", Sentences.joined(row, "copy 0 1 1 0 3 = 3", "get 0 ints 0 = 2",
-            "get 0 ints 1 = 3", "get 0 ints 2 = 4", "get 0 ints 3 = 4"));
+        String[] row = {"row 0 ints 4", "put 0 ints 0 1", "put 0 ints 1 2", "put 0 ints 2 3", "put 0 ints 3 4",
+            "set 0 1"};
+        Sentences.sentence("16: as they were before (upwards)", Sentences.joined(row, "copy 0 0 1 1 3 = 3",
+            "get 0 ints 0 = 1", "get 0 ints 1 = 1", "get 0 ints 2 = 2", "get 0 ints 3 = 3"));
+        Sentences.sentence("16: as they were before (downwards)", Sentences.joined(row, "copy 0 1 1 0 3 = 3",
+            "get 0 ints 0 = 2", "get 0 ints 1 = 3", "get 0 ints 2 = 4", "get 0 ints 3 = 4"));
         String[] cradle = {"part 1 CUPS", "part 2 CUPS", "cradle 0 CUPS 3", "lay 0 0 1", "lay 0 1 2", "set 0 3"};
-        Sentences.sentence("16: as they were before (CRADLE)", Sentences.joined(cradle, "copy 0 0 3 1 2 = 2", "lift 0 0 CUPS 5",
-            "told 5 SERIAL = 0", "lift 0 1 CUPS 5", "told 5 SERIAL = 0", "lift 0 2 CUPS 5", "told 5 SERIAL = 1"));
-        Sentences.sentence("16: as they were before (GRID)", "grid 0 3 1", "putAt 0 0 0 1", "putAt 0 1 0 2", "putAt 0 2 0 3",
-            "copy 0 0 0 1 2 = 2", "getAt 0 0 0 = 1", "getAt 0 1 0 = 1", "getAt 0 2 0 = 2", "putAt 0 0 0 9", "getAt 0 1 0 = 9");
+        Sentences.sentence("16: as they were before (CRADLE)", Sentences.joined(cradle, "copy 0 0 3 1 2 = 2",
+            "lift 0 0 CUPS 5", "told 5 SERIAL = 0", "lift 0 1 CUPS 5", "told 5 SERIAL = 0", "lift 0 2 CUPS 5",
+            "told 5 SERIAL = 1"));
+        Sentences.sentence("16: as they were before (GRID)", "grid 0 3 1", "putAt 0 0 0 1", "putAt 0 1 0 2",
+            "putAt 0 2 0 3", "copy 0 0 0 1 2 = 2", "getAt 0 0 0 = 1", "getAt 0 1 0 = 1", "getAt 0 2 0 = 2",
+            "putAt 0 0 0 9", "getAt 0 1 0 = 9");
         String[] parts = {"part 1 VANE", "part 2 SONIC", "part 3 CUPS", "cradle 4 SENSOR 4", "lay 4 0 1", "lay 4 2 3",
             "lay 4 3 2", "cradle 5 VANE 4", "lay 5 1 2", "lay 5 2 2", "lay 5 3 1"};
         Sentences.sentence("16: item by item, STORE at the first that does not belong (missing ones do): those ahead have come",
-            Sentences.joined(parts, "copy 4 0 5 0 4 = STORE ~", "lift 5 0 VANE 6", "told 6 SERIAL = 0", "lift 5 1 VANE 6",
-            "holds 6 = NONE", "lift 5 2 VANE 6", "told 6 SERIAL = 1", "lift 5 3 VANE 6", "told 6 SERIAL = 0"));
-        Sentences.sentence("16: STORE at the first that does not belong: the very first", Sentences.joined(parts, "copy 4 2 5 0 2 = STORE",
-            "copy 4 2 5 0 1 = STORE", "copy 4 2 5 0 0 = 0", "copy 4 3 5 0 1 = 1"));
-        Sentences.sentence("16: INDEX ahead of items that do not belong", Sentences.joined(parts, "copy 4 2 5 2 3 = INDEX"));
-        Sentences.sentence("16: missing ones do (of a GRID in a CRADLE)", Sentences.joined(parts, "grid 7 2 -1", "copy 7 0 5 2 2 = 2",
-            "lift 5 2 VANE 6", "holds 6 = NONE", "lift 5 3 VANE 6", "holds 6 = NONE", "lift 5 1 VANE 6", "holds 6 = PART"));
-        Sentences.sentence("16: STORE (a ROW in a CRADLE), those ahead have come", Sentences.joined(parts, "grid 7 2 -1", "row 8 ints 1",
-            "link 7 1 8", "copy 7 0 5 2 2 = STORE ~", "lift 5 2 VANE 6", "holds 6 = NONE", "lift 5 3 VANE 6", "holds 6 = PART"));
-        Sentences.sentence("16: STORE (a PART in a GRID), those ahead have come", Sentences.joined(parts, "grid 7 3 1", "putAt 7 2 0 5",
-            "copy 4 1 7 1 2 = STORE ~", "getAt 7 1 0 = 0 NOTHING", "getAt 7 2 0 = 5", "getAt 7 0 0 = 0"));
+            Sentences.joined(parts, "copy 4 0 5 0 4 = STORE ~", "lift 5 0 VANE 6", "told 6 SERIAL = 0",
+            "lift 5 1 VANE 6", "holds 6 = NONE", "lift 5 2 VANE 6", "told 6 SERIAL = 1", "lift 5 3 VANE 6",
+            "told 6 SERIAL = 0"));
+        Sentences.sentence("16: STORE at the first that does not belong: the very first", Sentences.joined(parts,
+            "copy 4 2 5 0 2 = STORE", "copy 4 2 5 0 1 = STORE", "copy 4 2 5 0 0 = 0", "copy 4 3 5 0 1 = 1"));
+        Sentences.sentence("16: INDEX ahead of items that do not belong", Sentences.joined(parts,
+            "copy 4 2 5 2 3 = INDEX"));
+        Sentences.sentence("16: missing ones do (of a GRID in a CRADLE)", Sentences.joined(parts, "grid 7 2 -1",
+            "copy 7 0 5 2 2 = 2", "lift 5 2 VANE 6", "holds 6 = NONE", "lift 5 3 VANE 6", "holds 6 = NONE",
+            "lift 5 1 VANE 6", "holds 6 = PART"));
+        Sentences.sentence("16: STORE (a ROW in a CRADLE), those ahead have come", Sentences.joined(parts,
+            "grid 7 2 -1", "row 8 ints 1", "link 7 1 8", "copy 7 0 5 2 2 = STORE ~", "lift 5 2 VANE 6",
+            "holds 6 = NONE", "lift 5 3 VANE 6", "holds 6 = PART"));
+        Sentences.sentence("16: STORE (a PART in a GRID), those ahead have come", Sentences.joined(parts, "grid 7 3 1",
+            "putAt 7 2 0 5", "copy 4 1 7 1 2 = STORE ~", "getAt 7 1 0 = 0 NOTHING", "getAt 7 2 0 = 5",
+            "getAt 7 0 0 = 0"));
     }
 
     private static void length() {
@@ -392,8 +411,8 @@ public final class StoreBoundariesTest {
         Sentences.atMost("17: ROW (LANE 0 .. 7), GRID (8), CRADLE (9); OUTSIDE", 9, "length 5 #", "2", "OUTSIDE",
             "cradle 5 CUPS 2");
         Sentences.sentence("17: how many items, none and most", "row 0 ints 0", "length 0 ints = 0", "row 0 ints 30",
-            "length 0 ints = 30", "grid 0 0 3", "length 0 GRID = 0", "grid 0 8 -1", "length 0 GRID = 8", "cradle 0 CUPS 0",
-            "length 0 CRADLE = 0", "cradle 0 CUPS 8", "length 0 CRADLE = 8");
+            "length 0 ints = 30", "grid 0 0 3", "length 0 GRID = 0", "grid 0 8 -1", "length 0 GRID = 8",
+            "cradle 0 CUPS 0", "length 0 CRADLE = 0", "cradle 0 CUPS 8", "length 0 CRADLE = 8");
         for (int as = 0; as < 10; as++) {
             Sentences.furnished("17: CAST (a PART is none of these)", "length 18 " + as + " = CAST");
             Sentences.furnished("17: NOTHING; an EMPTY CASE may be treated as any", "length 0 " + as + " = NOTHING");
@@ -409,32 +428,34 @@ public final class StoreBoundariesTest {
     }
 
     private static void alikeRows() {
-        Sentences.furnished("18: one and the same THING, or both EMPTY: 1", "alike 0 1 = 1", "alike 0 0 = 1", "alike 16 16 = 1",
-            "alike 19 21 = 1");
+        Sentences.furnished("18: one and the same THING, or both EMPTY: 1", "alike 0 1 = 1", "alike 0 0 = 1",
+            "alike 16 16 = 1", "alike 19 21 = 1");
         Sentences.furnished("18: else 0 (one EMPTY)", "alike 0 16 = 0", "alike 16 0 = 0");
         for (int lane = 0; lane < 8; lane++) {
-            Sentences.sentence("18: 2: ROWS of a LANE with the same BITS", "row 0 " + lane + " 30", "row 1 " + lane + " 30",
-                "alike 0 1 = 2", "put 0 " + lane + " 29 1", "alike 0 1 = 0", "put 1 " + lane + " 29 1", "alike 0 1 = 2",
-                "put 1 " + lane + " 0 1", "alike 0 1 = 0", "row 0 " + lane + " 0", "row 1 " + lane + " 0", "alike 0 1 = 2",
-                "row 1 " + (lane + 1) % 8 + " 0", "alike 0 1 = 0", "row 1 " + lane + " 1", "alike 0 1 = 0", "alike 1 0 = 0");
+            Sentences.sentence("18: 2: ROWS of a LANE with the same BITS", "row 0 " + lane + " 30",
+                "row 1 " + lane + " 30", "alike 0 1 = 2", "put 0 " + lane + " 29 1", "alike 0 1 = 0",
+                "put 1 " + lane + " 29 1", "alike 0 1 = 2", "put 1 " + lane + " 0 1", "alike 0 1 = 0",
+                "row 0 " + lane + " 0", "row 1 " + lane + " 0", "alike 0 1 = 2", "row 1 " + (lane + 1) % 8 + " 0",
+                "alike 0 1 = 0", "row 1 " + lane + " 1", "alike 0 1 = 0", "alike 1 0 = 0");
         }
-        Sentences.sentence("18: the same BITS (-0.0 has others, no number has one)", "row 0 doubles 1", "row 1 doubles 1",
-            "put 0 doubles 0 -0.0d", "alike 0 1 = 0", "put 0 doubles 0 0x7FF0000000000001", "put 1 doubles 0 0xFFF8000000000000",
-            "alike 0 1 = 2", "row 0 floats 1", "row 1 floats 1", "put 0 floats 0 0x80000000", "alike 0 1 = 0",
-            "put 0 floats 0 0x7F800001", "put 1 floats 0 0xFFC00000", "alike 0 1 = 2");
+        Sentences.sentence("18: the same BITS (-0.0 has others, no number has one)", "row 0 doubles 1",
+            "row 1 doubles 1", "put 0 doubles 0 -0.0d", "alike 0 1 = 0", "put 0 doubles 0 0x7FF0000000000001",
+            "put 1 doubles 0 0xFFF8000000000000", "alike 0 1 = 2", "row 0 floats 1", "row 1 floats 1",
+            "put 0 floats 0 0x80000000", "alike 0 1 = 0", "put 0 floats 0 0x7F800001", "put 1 floats 0 0xFFC00000",
+            "alike 0 1 = 2");
         Sentences.sentence("18: else 0 (two PARTS)", "part 0 CUPS", "part 1 CUPS", "alike 0 1 = 0");
-        Sentences.furnished("18: else 0 (unlike THINGS)", "alike 16 17 = 0", "alike 17 18 = 0", "alike 17 20 = 0", "alike 20 17 = 0",
-            "alike 18 16 = 0", "grid 0 0 0", "cradle 1 CUPS 0", "alike 0 1 = 0", "alike 1 0 = 0", "row 2 ints 0", "alike 0 2 = 0",
-            "alike 2 1 = 0");
+        Sentences.furnished("18: else 0 (unlike THINGS)", "alike 16 17 = 0", "alike 17 18 = 0", "alike 17 20 = 0",
+            "alike 20 17 = 0", "alike 18 16 = 0", "grid 0 0 0", "cradle 1 CUPS 0", "alike 0 1 = 0", "alike 1 0 = 0",
+            "row 2 ints 0", "alike 0 2 = 0", "alike 2 1 = 0");
     }
 
     private static void alikeShelves() {
-        Sentences.sentence("18: 2: GRIDS whose ROWS are so", "grid 0 2 2", "grid 1 2 2", "alike 0 1 = 2", "putAt 0 1 1 1",
-            "alike 0 1 = 0", "putAt 1 1 1 1", "alike 0 1 = 2", "grid 1 3 2", "alike 0 1 = 0", "grid 0 0 1", "grid 1 0 -1",
-            "alike 0 1 = 2", "grid 0 1 1", "grid 1 1 2", "alike 0 1 = 0");
-        Sentences.sentence("18: 2: GRIDS, or missing alike", "grid 0 2 -1", "grid 1 2 -1", "alike 0 1 = 2", "row 2 ints 0",
-            "link 0 1 2", "alike 0 1 = 0", "alike 1 0 = 0", "link 1 1 2", "alike 0 1 = 2", "row 2 ints 0", "link 1 1 2",
-            "alike 0 1 = 2");
+        Sentences.sentence("18: 2: GRIDS whose ROWS are so", "grid 0 2 2", "grid 1 2 2", "alike 0 1 = 2",
+            "putAt 0 1 1 1", "alike 0 1 = 0", "putAt 1 1 1 1", "alike 0 1 = 2", "grid 1 3 2", "alike 0 1 = 0",
+            "grid 0 0 1", "grid 1 0 -1", "alike 0 1 = 2", "grid 0 1 1", "grid 1 1 2", "alike 0 1 = 0");
+        Sentences.sentence("18: 2: GRIDS, or missing alike", "grid 0 2 -1", "grid 1 2 -1", "alike 0 1 = 2",
+            "row 2 ints 0", "link 0 1 2", "alike 0 1 = 0", "alike 1 0 = 0", "link 1 1 2", "alike 0 1 = 2",
+            "row 2 ints 0", "link 1 1 2", "alike 0 1 = 2");
         Sentences.sentence("18: 2: CRADLES for a KIND with the same PARTS", "cradle 0 VANE 2", "cradle 1 VANE 2",
             "alike 0 1 = 2", "part 2 VANE", "part 3 VANE", "lay 0 1 2", "alike 0 1 = 0", "alike 1 0 = 0", "lay 1 1 3",
             "alike 0 1 = 0", "lay 1 1 2", "alike 0 1 = 2", "cradle 1 SENSOR 2", "lay 1 1 2", "alike 0 1 = 0",
